@@ -58,6 +58,14 @@ final class BalanceTest {
         x.setLoad(1, -200);
         x.setTide(1, -200);
         Check.due("9: height below 0", 5, () -> x.force(1, 0));
+        MoorWatch tended = berth(200, 100);
+        tended.setTide(0, -200);
+        tended.setLoad(0, -100);
+        tended.setWind(1000000);
+        Check.due("17: set length 0", 0, () -> tended.tend(0, 0, 0));
+        tended.setWind(0);
+        Check.due("9: length 0 with set length 0", 0, () -> tended.force(0, 200));
+        Check.due("9: length 1", 100, () -> tended.force(0, 199));
     }
 
     // The farthest line, as short as it can be tended and as long as it can be drawn.

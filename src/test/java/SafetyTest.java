@@ -36,6 +36,8 @@ final class SafetyTest {
             return x.isSafe(0);
         });
         Check.due("15: new object", true, () -> new MoorWatch().isSafe(47));
+        Check.outOfBounds("15: hour -1", () -> new MoorWatch().isSafe(-1));
+        Check.outOfBounds("15: hour 48", () -> new MoorWatch().isSafe(48));
     }
 
     private static void safeByBollard() {

@@ -4,7 +4,7 @@ final class BalanceTest {
         force();
         pullsAreRoundedTowardsZero();
         lengthZeroDoesNotPull();
-        greatestPull();
+        pullOfTheFarthestLine();
         shift();
         shiftWithoutLines();
         ends();
@@ -69,7 +69,7 @@ final class BalanceTest {
     }
 
     // The farthest line, as short as it can be tended and as long as it can be drawn.
-    private static void greatestPull() {
+    private static void pullOfTheFarthestLine() {
         MoorWatch x = new MoorWatch();
         x.addBollard(5000, 1000000);
         x.addLine(-5000, 0, 100, 1000000);

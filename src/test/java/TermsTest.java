@@ -120,7 +120,8 @@ final class TermsTest {
             {2, 2, 2}, {6, 8, 10}, {3, -4, 5}, {8, 4, 8}, {1, 9, 9}, {70, 70, 98}, {69, 71, 99}, {400, 300, 500},
             {399, 299, 498}, {400, 301, 500}, {401, 300, 500}, {402, 300, 501}, {0, 700, 700}, {0, -100, 100},
             {9991, 600, 10009}, {10197, 404, 10205}, {10110, 318, 10114}, {9290, 682, 9314}, {10198, 639, 10218},
-            {10200, 700, 10223}, {10200, 0, 10200}, {10200, -100, 10200}};
+            {10200, 700, 10223}, {10200, 0, 10200}, {10200, -100, 10200}, {8191, 0, 8191}, {8191, 128, 8192},
+            {8192, 0, 8192}, {8193, 0, 8193}};
         for (int[] row : rows) {
             String what = "length with height " + row[1] + " and d ";
             Check.due(what + row[0], row[2], () -> Berths.blownTo(row[0], row[1], 1).length(0, 0));
@@ -200,6 +201,11 @@ final class TermsTest {
         Check.due("in the hour after", 152 + 304 - 30, () -> x.force(4, -200));
         x.setPassing(3, 30);
         Check.due("wind and passing ship alike", 0, () -> x.force(3, 0));
+        // At shift 2 d is -402, the length 501 and the tension 1, of which 402 / 501 pull: rounded, then added.
+        MoorWatch rounded = Berths.oneLine(-400, 1);
+        rounded.addLine(0, 0, 1, 1);
+        rounded.addLine(0, 0, 1, 1);
+        Check.due("three pulls, each rounded to 0", 0, () -> rounded.force(0, 2));
     }
 
     private static void greatestForce() {
@@ -215,25 +221,32 @@ final class TermsTest {
         tenLinesWithAllTheirPull(-1);
     }
 
-    // Set length 700 at d 800 and height 0 with slack -100; then d 1200, height 700: 100 * 689 * 1200 / 1389.
+    // No line pulls more than one with the way 1071: set length 771, then d 1271, height 700 and length 1451.
     private static void tenLinesWithAllTheirPull(int side) {
+        MoorWatch x = tenTightLines(side, 1071);
+        x.setWind(1000000 * side);
+        x.setPassing(0, 1000000 * side);
+        int pull = 100 * (1451 - 771) * 1271 / 1451;
+        Check.due("ten lines, wind and passing ship", side * (2000000 + 10 * pull), () -> x.force(0, -200 * side));
+        // With the way 300 the set length is 0, and at d 500 and the height 700 the length is 860.
+        MoorWatch tension = tenTightLines(side, 300);
+        Check.due("the greatest tension", 86000, () -> tension.tension(9, 0));
+        Check.due("ten of them on a bollard", 860000, () -> tension.onBollard(0, 0));
+    }
+
+    // Tended at their shortest with the least slack, then drawn as far as the water and the shift can draw them.
+    private static MoorWatch tenTightLines(int side, int reach) {
         MoorWatch x = new MoorWatch();
-        x.addBollard(1000 * side, 1000000);
-        for (int line = 0; line < 10; line++) {
-            x.addLine(0, 0, 100, 1000000);
-        }
+        x.addBollard(reach * side, 1000000);
         x.setWind(1000000 * side);
         Berths.setHeight(x, 0, 0);
         for (int line = 0; line < 10; line++) {
-            int l = line;
-            Check.due("set length of line " + l, 700, () -> x.tend(l, 0, -100));
+            x.addLine(0, 0, 100, 1000000);
+            x.tend(line, 0, -100);
         }
         Berths.setHeight(x, 0, 700);
-        x.setPassing(0, 1000000 * side);
-        Check.due("ten lines, wind and passing ship", side * (2000000 + 10 * 59524), () -> x.force(0, -200 * side));
         x.setWind(-1000000 * side);
-        x.setPassing(0, 0);
-        Check.due("ten lines on a bollard", 689000, () -> x.onBollard(0, 0));
+        return x;
     }
 
     private static void everyShiftIsFound() {
@@ -430,7 +443,7 @@ final class TermsTest {
         Check.due("the last hour", 1, () -> x.plan(47, 47));
     }
 
-    // Hour 4 is safe once the lines are tended; a line let go would be tended to another length there.
+    // With no line made fast an hour is safe or stays as it is, so the plan has nothing to do or fails.
     private static void planTendsNoLineLetGo() {
         MoorWatch x = threeLines();
         x.toggle(2);

@@ -47,7 +47,7 @@ final class Berths {
         x.setTide(25, 90);
         x.setPassing(47, 6000);
         x.toggle(0);
-        x.tend(9, 47, 5);
+        x.tend(9, 0, -5);
         return x;
     }
 
